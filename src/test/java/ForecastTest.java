@@ -125,6 +125,9 @@ public final class ForecastTest {
             x.opening(day, day == 0 ? 0 : -1);
         }
         Checks.due("24: a week", x.rightWinding(2), 168);
+        x.loss(2, 5);
+        Checks.due("24: a week with loss 5", x.rightWinding(2), 135);
+        x.loss(2, 0);
         x.opening(0, -1);
         Checks.due("24: no opening", x.rightWinding(2), -1);
         for (int movement : new int[] {-1, 3, Integer.MAX_VALUE, Integer.MIN_VALUE}) {
@@ -206,6 +209,12 @@ public final class ForecastTest {
         VaultMovements first = new VaultMovements();
         Checks.type(first, "n+2");
         Checks.due("26: with a buffer", first.digest(), Checks.digestOf(first, "n+2"));
+        VaultMovements late = Checks.lockedWith(12, 19, 20);
+        Checks.due("26: locked, late by 4", late.digest(), Checks.digestOf(late, ""));
+        late.open();
+        late.open();
+        late.open();
+        Checks.due("26: waiting", late.digest(), Checks.digestOf(late, ""));
     }
 
     private static void openOnce(VaultMovements x) {

@@ -5,6 +5,7 @@ public final class TextsTest {
         promise13();
         promise14();
         promise15();
+        promise15Shorter();
         promise15Wrong();
         promise16();
         promise16Buffer();
@@ -124,6 +125,17 @@ public final class TextsTest {
         Checks.due("15: the buffer is cleared", x.clearBuffer(), 0);
     }
 
+    private static void promise15Shorter() {
+        VaultMovements x = new VaultMovements();
+        Checks.type(x, "1,2,34,-");
+        x.clearBuffer();
+        Checks.type(x, "1,2,3");
+        Checks.due("15: what was cleared is gone", x.windAll(), 3);
+        Checks.due("15: what was cleared is gone", x.movement(2, 0), 3);
+        Checks.type(x, "5,6");
+        Checks.dueArgument("15: what was wound is gone", x, () -> x.windAll());
+    }
+
     private static void promise15Wrong() {
         for (String text : new String[] {"", "1", "1,2", "1,2,", "1,2,n+", "n-,1,1", "1,2,3,", "1,2,3x", "x", "0,1,1", "201,1,1"}) {
             VaultMovements x = new VaultMovements();
@@ -135,15 +147,19 @@ public final class TextsTest {
         Checks.dueArgument("15: locked, but no windings", locked, () -> locked.windAll());
         Checks.type(locked, "-,-,-");
         Checks.dueState("15: locked, nothing to wind", locked, () -> locked.windAll());
-        VaultMovements stopped = new VaultMovements();
-        stopped.fault(2, false);
-        Checks.type(stopped, "5,5,5");
-        Checks.dueState("15: a stopped one", stopped, () -> stopped.windAll());
-        Checks.due("15: none is wound", stopped.movement(0, 0), 0);
-        VaultMovements low = new VaultMovements();
-        Checks.type(low, "5,5,n-8");
-        Checks.dueState("15: 0 hours", low, () -> low.windAll());
-        Checks.due("15: none is wound", low.movement(0, 0), 0);
+        for (int i = 0; i < 3; i++) {
+            VaultMovements stopped = new VaultMovements();
+            stopped.fault(i, false);
+            Checks.type(stopped, "5,5,5");
+            Checks.dueState("15: a stopped one", stopped, () -> stopped.windAll());
+            Checks.due("15: the buffer stays", stopped.clearBuffer(), 5);
+        }
+        for (String text : new String[] {"n-8,5,5", "5,n-8,5", "5,5,n-8", "n-9,-,-"}) {
+            VaultMovements low = new VaultMovements();
+            Checks.type(low, text);
+            Checks.dueState("15: 0 hours or less in " + text, low, () -> low.windAll());
+            Checks.due("15: the buffer stays", low.clearBuffer(), text.length());
+        }
         VaultMovements shut = new VaultMovements();
         for (int day = 0; day < 7; day++) {
             shut.opening(day, -1);
