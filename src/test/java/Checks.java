@@ -39,11 +39,17 @@ final class Checks {
             if (e.getClass() != want) {
                 fail(what + " threw " + e + ", due is " + want.getSimpleName());
             }
-            if (!e.getStackTrace()[0].getClassName().equals("VaultMovements")) {
-                fail(what + " was thrown by " + e.getStackTrace()[0]);
+            if (!isThrownByTheProgram(e)) {
+                fail(what + " was not thrown by the program itself: " + e);
             }
         }
         due(what + ": the digest after it", x.digest(), before);
+    }
+
+    /** False for an exception of the Java library, such as an ArrayList's for an index that it does not have. */
+    static boolean isThrownByTheProgram(RuntimeException e) {
+        StackTraceElement[] trace = e.getStackTrace();
+        return trace.length > 0 && trace[0].getClassName().startsWith("VaultMovements");
     }
 
     static void dueIndex(String what, VaultMovements x, Call call) {

@@ -219,22 +219,17 @@ public final class DoorTest {
     }
 
     private static void promise11Limit() {
-        VaultMovements x = new VaultMovements();
-        for (int i = 0; i < 499; i++) {
-            x.pass(200);
-        }
-        Checks.due("11: near the limit", x.count(0), 99800);
+        VaultMovements x = Clocks.at(99800);
         Checks.dueState("11: one too many", x, () -> x.pass(200));
         x.pass(199);
         Checks.due("11: the last hour", x.count(0), 99999);
         Checks.dueState("11: none more", x, () -> x.pass(1));
         Checks.dueArgument("11: none more, out of range", x, () -> x.pass(201));
-        Checks.due("11: the opening is beyond the limit", x.count(4), 17);
-        x.wind(0, 30);
-        x.wind(1, 30);
-        x.wind(2, 30);
-        x.lock();
-        Checks.due("11: opens beyond the limit", x.opensIn(), 30);
-        Checks.due("11: lateness beyond the limit", x.lateness(), 13);
+        VaultMovements y = Clocks.at(99999);
+        Checks.due("11: the opening is beyond the limit", y.count(4), 17);
+        Clocks.wind(y, 30, 30, 30);
+        y.lock();
+        Checks.due("11: opens beyond the limit", y.opensIn(), 30);
+        Checks.due("11: lateness beyond the limit", y.lateness(), 13);
     }
 }

@@ -41,8 +41,8 @@ public final class FaceTest {
         "long digest() "};
 
     // What stands in no program that keeps to rules 2, 4, 6 and 13.
-    private static final String[] RULED_OUT = {"\\bimport\\b", "^package\\b", "\\bDouble\\b", "\\bSystem\\.(?!arraycopy)", "->", "::",
-        "\\bcatch\\b", "\\bfinally\\b", "\\bassert\\b", "\\bsynchronized\\b", "\\bThread\\b", "\\bRandom\\b", "[a-z]Exact\\("};
+    private static final String[] RULED_OUT = {"\\bimport\\b", "^package\\b", "\\bDouble\\b", "\\bSystem\\.(?!arraycopy)", "::",
+        "^(?!\\s*(case|default)\\b).*->", "\\bfinally\\b", "\\bassert\\b", "\\bsynchronized\\b", "\\bThread\\b", "\\bRandom\\b", "[a-z]Exact\\("};
 
     public static void main(String[] args) throws IOException {
         classIsAsItShould();

@@ -186,7 +186,7 @@ public final class ForecastTest {
         Checks.due("25: none of one", late.punctuality(), 0.0);
     }
 
-    /** Every share that some 100 doors make, so that the bits of each are compared. */
+    /** Shares of 100 doors, so that the bits of each are compared. */
     private static void promise26() {
         for (int onTime = 0; onTime <= 100; onTime += 5) {
             VaultMovements x = new VaultMovements();
@@ -195,14 +195,14 @@ public final class ForecastTest {
             }
             x.wind(0, 5);
             for (int i = 0; i < onTime; i++) {
-                openOnce(x);
-                Checks.due("26: digest()", x.digest(), Checks.digestOf(x, ""));
+                Clocks.openOnce(x);
             }
+            Checks.due("26: digest()", x.digest(), Checks.digestOf(x, ""));
             x.opening(0, 5);
             for (int i = onTime; i < 100; i++) {
-                openOnce(x);
-                Checks.due("26: digest(), early", x.digest(), Checks.digestOf(x, ""));
+                Clocks.openOnce(x);
             }
+            Checks.due("26: digest(), early", x.digest(), Checks.digestOf(x, ""));
             Checks.due("26: on time", x.count(10), onTime);
             Checks.due("26: early", x.count(12), 100 - onTime);
         }
@@ -215,11 +215,6 @@ public final class ForecastTest {
         late.open();
         late.open();
         Checks.due("26: waiting", late.digest(), Checks.digestOf(late, ""));
-    }
-
-    private static void openOnce(VaultMovements x) {
-        x.lock();
-        x.open();
     }
 
     private static void nothingIsChanged() {

@@ -422,4 +422,32 @@ final class Model {
         int doors = now.onTime + now.late + now.early + now.drilled;
         return doors == 0 ? 1.0 : (double) now.onTime / doors;
     }
+
+    long digest() {
+        long hash = 2699;
+        for (int i = 0; i <= 14; i++) {
+            hash = 31 * hash + count(i);
+        }
+        for (int i = 0; i <= 2; i++) {
+            hash = 31 * hash + setting(i);
+        }
+        for (int i = 0; i <= 6; i++) {
+            hash = 31 * hash + day(i);
+        }
+        for (int i = 0; i <= 2; i++) {
+            for (int what = 0; what <= 5; what++) {
+                hash = 31 * hash + movement(i, what);
+            }
+            hash = 31 * hash + rightWinding(i);
+        }
+        hash = 31 * hash + opensIn();
+        hash = 31 * hash + lateness();
+        hash = 31 * hash + keyMovement();
+        hash = 31 * hash + Double.doubleToLongBits(punctuality());
+        hash = 31 * hash + text.length();
+        for (int i = 0; i < text.length(); i++) {
+            hash = 31 * hash + text.charAt(i);
+        }
+        return hash;
+    }
 }

@@ -1,5 +1,9 @@
 /** Long runs of calls, the same ones each time, whose answers are compared with the model's. */
 public final class ModelTest {
+    private static final int RUNS = 4000;
+    // Behind its 512th call an object may answer anything.
+    private static final int MOST_CALLS = 512;
+    private static final int CALLS_OF_A_STEP = 25;
     private static final String[] PIECES = {"n", "n+", "n-", "n+3", "n-2", "n+9", "-", "1", "2", "20", "200", "17", "19", "201",
         "0", "+", ",", ",", ",", "8", "x", "9", "30"};
     private static final String[] KINDS = {"n", "n+2", "n-1", "n-9", "n+9", "-", "1", "8", "24", "99", "200", "n", "12"};
@@ -8,6 +12,7 @@ public final class ModelTest {
     private final VaultMovements x = new VaultMovements();
     private final Model model = new Model();
     private String call = "";
+    private int calls = 0;
     private long answers = 0;
 
     private ModelTest(long seed) {
@@ -16,9 +21,9 @@ public final class ModelTest {
 
     public static void main(String[] args) {
         long answers = 0;
-        for (int run = 0; run < 1200; run++) {
+        for (int run = 0; run < RUNS; run++) {
             ModelTest test = new ModelTest(run * 7919L + 17);
-            for (int i = 0; i < 512; i++) {
+            for (int i = 0; test.calls + CALLS_OF_A_STEP <= MOST_CALLS; i++) {
                 test.step(i, run % 4);
             }
             answers += test.answers;
@@ -55,7 +60,7 @@ public final class ModelTest {
         } else {
             looks();
         }
-        if (at % 8 == 7) {
+        if (at % 4 == 3) {
             all();
         }
     }
@@ -135,7 +140,18 @@ public final class ModelTest {
         compare("rightWinding(" + i + ")", () -> x.rightWinding(i), () -> model.rightWinding(i));
     }
 
+    /** All that can be seen, in one call; if it differs, each look tells what does. */
     private void all() {
+        calls++;
+        long due = model.digest();
+        long got = x.digest();
+        Checks.due(call + ": digest()", got, due);
+        if (got != due) {
+            allLooks();
+        }
+    }
+
+    private void allLooks() {
         for (int i = 0; i <= 14; i++) {
             int what = i;
             compare("count(" + i + ")", () -> x.count(what), () -> model.count(what));
@@ -158,11 +174,11 @@ public final class ModelTest {
         compare("lateness()", x::lateness, model::lateness);
         compare("keyMovement()", x::keyMovement, model::keyMovement);
         Checks.due(call + ": punctuality()", x.punctuality(), model.punctuality());
-        Checks.due(call + ": digest()", x.digest(), Checks.digestOf(x, model.text.toString()));
     }
 
     private void compare(String what, Checks.Call got, Checks.Call want) {
         call = what;
+        calls++;
         String due;
         try {
             due = Long.toString(want.answer());
