@@ -1,6 +1,8 @@
 import java.lang.reflect.InvocationTargetException;
 import java.lang.reflect.Method;
 import java.lang.reflect.Modifier;
+import java.util.LinkedHashMap;
+import java.util.Map;
 
 /**
  * Runs the cases of a test: each is a method without arguments that is named after the promise (or the terms ahead of
@@ -134,6 +136,50 @@ final class Cases {
         }
     }
 
+    /** Every look at a clock, but the number of its saved states, by its name: some 50 calls. */
+    private static Map<String, Long> looks(VaultMovements x) {
+        Map<String, Long> looks = new LinkedHashMap<>();
+        for (int what = 0; what <= 13; what++) {
+            looks.put("count(" + what + ")", (long) x.count(what));
+        }
+        for (int i = 0; i <= 2; i++) {
+            looks.put("setting(" + i + ")", (long) x.setting(i));
+            for (int what = 0; what <= 5; what++) {
+                looks.put("movement(" + i + ", " + what + ")", (long) x.movement(i, what));
+            }
+            looks.put("rightWinding(" + i + ")", (long) x.rightWinding(i));
+        }
+        for (int day = 0; day <= 6; day++) {
+            looks.put("day(" + day + ")", (long) x.day(day));
+        }
+        looks.put("opensIn()", (long) x.opensIn());
+        looks.put("lateness()", (long) x.lateness());
+        looks.put("keyMovement()", (long) x.keyMovement());
+        looks.put("punctuality()", Double.doubleToLongBits(x.punctuality()));
+        return looks;
+    }
+
+    /** The clock answers each look as the other one does, but for those that begin with one of these names. */
+    static void sameLooks(String when, VaultMovements x, VaultMovements other, String... changed) {
+        Map<String, Long> due = looks(other);
+        for (Map.Entry<String, Long> look : looks(x).entrySet()) {
+            boolean mayDiffer = false;
+            for (String name : changed) {
+                mayDiffer |= look.getKey().startsWith(name);
+            }
+            if (!mayDiffer) {
+                due(look.getKey() + " " + when, look.getValue(), due.get(look.getKey()));
+            }
+        }
+    }
+
+    /** The call changes none of the looks but these. */
+    static void changesOnly(String call, Call done, Making making, String... changed) {
+        VaultMovements x = making.make();
+        done.on(x);
+        sameLooks("behind " + call, x, making.make(), changed);
+    }
+
     /** The call saves one state, and undo() brings back all that was before it; the one before that lies under it. */
     static void undoable(String call, Call done, Making making) {
         VaultMovements x = making.make();
@@ -141,7 +187,8 @@ final class Cases {
         int saved = x.count(14);
         done.on(x);
         due("saved states behind " + call, x.count(14), Math.min(saved + 1, 6));
-        x.undo();
+        due("undo() behind " + call, x.undo(), Math.min(saved, 5));
+        sameLooks("behind " + call + " and undo()", x, twin);
         twin.fault(0, true);
         twin.undo();
         x.clearBuffer();
@@ -149,7 +196,7 @@ final class Cases {
         same("behind " + call + " and undo()", x, twin, ALL_UNDOS);
     }
 
-    /** The call saves nothing. */
+    /** The call saves nothing, and changes nothing but the buffer. */
     static void notUndoable(String call, Call done, Making making) {
         VaultMovements x = making.make();
         VaultMovements twin = making.make();

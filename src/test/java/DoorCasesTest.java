@@ -114,11 +114,14 @@ public final class DoorCasesTest {
     }
 
     static void promise8_noneIfNoOpeningIsDue() {
-        VaultMovements x = wound();
-        Clocks.shutAlways(x);
-        Cases.due("lock()", x.lock(), NONE);
-        Cases.due("count(3)", x.count(3), 1);
-        Cases.due("count(5)", x.count(5), NONE);
+        for (int hour : new int[] {0, 1, 200}) {
+            VaultMovements x = Clocks.at(hour);
+            Clocks.shutAlways(x);
+            x.wind(0, 9);
+            Cases.due("lock() in the hour " + hour, x.lock(), NONE);
+            Cases.due("count(3)", x.count(3), 1);
+            Cases.due("count(5)", x.count(5), NONE);
+        }
     }
 
     static void promise8_theDueOpeningMayBeBeyondTheLastHour() {
@@ -131,6 +134,10 @@ public final class DoorCasesTest {
     static void promise8_undoable() {
         Cases.undoable("lock()", x -> x.lock(), DoorCasesTest::wound);
         Cases.undoable("lock()", x -> x.lock(), Clocks::busyOpen);
+    }
+
+    static void promise8_nothingElseChanges() {
+        Cases.changesOnly("lock()", x -> x.lock(), Clocks::busyOpen, "count(3)", "count(5)", "opensIn", "lateness", "keyMovement");
     }
 
     // ---- promise 9
@@ -185,6 +192,21 @@ public final class DoorCasesTest {
 
     static void promise9_undoableWhenItMakesTheClockWait() {
         Cases.undoable("open()", x -> x.open(), () -> Clocks.lockedWithTries(1, 24));
+    }
+
+    static void promise9_anEarlyTryChangesNothingElse() {
+        Cases.changesOnly("open()", x -> x.open(), Clocks::busyLocked, "count(6)", "count(7)", "count(8)", "lateness", "opensIn");
+    }
+
+    static void promise9_anOpenedDoorChangesNothingElse() {
+        Cases.changesOnly("open()", x -> x.open(), DoorCasesTest::readyToOpen, "count(3)", "count(5)", "count(6)", "count(9)",
+            "count(11)", "punctuality", "opensIn", "lateness", "keyMovement");
+    }
+
+    private static VaultMovements readyToOpen() {
+        VaultMovements x = Clocks.busyLocked();
+        x.pass(200);
+        return x;
     }
 
     // ---- promise 10
@@ -250,6 +272,13 @@ public final class DoorCasesTest {
     static void promise10_undoable() {
         Cases.undoable("drill()", x -> x.drill(), () -> Clocks.lockedWith(9, 0, 200));
         Cases.undoable("drill()", x -> x.drill(), Clocks::busyLocked);
+    }
+
+    static void promise10_nothingElseChanges() {
+        Cases.changesOnly("drill()", x -> x.drill(), Clocks::busyLocked, "count(3)", "count(5)", "count(6)", "count(7)",
+            "count(13)", "movement(0, 0)", "movement(0, 1)", "movement(0, 5)", "movement(1, 0)", "movement(1, 1)",
+            "movement(1, 5)", "movement(2, 0)", "movement(2, 1)", "movement(2, 5)", "rightWinding", "punctuality", "opensIn",
+            "lateness", "keyMovement");
     }
 
     // ---- promise 11
@@ -365,5 +394,20 @@ public final class DoorCasesTest {
         Cases.undoable("pass(200)", x -> x.pass(200), VaultMovements::new);
         Cases.undoable("pass(200)", x -> x.pass(200), () -> Clocks.lockedWith(9, 100, 200));
         Cases.undoable("pass(9)", x -> x.pass(9), Clocks::busyLocked);
+    }
+
+    static void promise11_nothingButMovementsIsCounted() {
+        VaultMovements x = new VaultMovements();
+        Clocks.setOpenings(x, 0, 0, 0, 0, 0, 0, 0);
+        Clocks.wind(x, 6, 6, 6);
+        Cases.due("pass(5)", x.pass(5), 0);
+    }
+
+    static void promise11_nothingElseChanges() {
+        String[] time = {"count(0)", "count(1)", "count(2)", "count(4)", "rightWinding"};
+        Cases.changesOnly("pass(30)", x -> x.pass(30), Clocks::busyOpen, time);
+        Cases.changesOnly("pass(200)", x -> x.pass(200), Clocks::busyLocked, "count(0)", "count(1)", "count(2)", "count(4)",
+            "count(7)", "movement(0, 0)", "movement(0, 3)", "movement(0, 5)", "movement(2, 0)", "movement(2, 3)",
+            "movement(2, 5)", "rightWinding", "opensIn", "lateness", "keyMovement");
     }
 }

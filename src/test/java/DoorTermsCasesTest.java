@@ -317,11 +317,11 @@ public final class DoorTermsCasesTest {
     }
 
     static void terms_openedWithoutADueOpeningIsOnTime() {
-        VaultMovements x = new VaultMovements();
+        VaultMovements x = Clocks.at(10);
         Clocks.shutAlways(x);
         x.wind(0, 1);
         x.lock();
-        x.opening(0, 9);
+        x.opening(0, 12);
         x.pass(5);
         x.open();
         opened(x, 1, 0, 0);
@@ -344,10 +344,12 @@ public final class DoorTermsCasesTest {
     }
 
     static void terms_dueIsNoneWhenThereIsNoOpening() {
-        VaultMovements x = new VaultMovements();
-        Clocks.shutAlways(x);
-        x.wind(0, 1);
-        x.lock();
-        Cases.due("count(5)", x.count(5), NONE);
+        for (int hour : new int[] {0, 7, 200}) {
+            VaultMovements x = Clocks.at(hour);
+            Clocks.shutAlways(x);
+            x.wind(0, 1);
+            x.lock();
+            Cases.due("count(5) in the hour " + hour, x.count(5), NONE);
+        }
     }
 }

@@ -429,6 +429,29 @@ public final class ForecastCasesTest {
         rightWinding(x, 0, 7);
     }
 
+    static void promise24_theHoursSinceTheServiceMayBeMoreThanTheLoss() {
+        VaultMovements x = Clocks.lockedWith(9, 9, 9);
+        x.pass(9);
+        x.loss(0, 4);
+        x.loss(1, 3);
+        x.loss(2, 9);
+        rightWinding(x, 0, NONE);
+        rightWinding(x, 1, 16);
+        rightWinding(x, 2, 21);
+        x.loss(0, 5);
+        rightWinding(x, 0, 18);
+    }
+
+    static void promise24_theHoursThatAreLostAreNotWound() {
+        VaultMovements x = Clocks.at(8);
+        Clocks.setOnlyOpening(x, 0, 8);
+        x.loss(0, 5);
+        rightWinding(x, 0, 135);
+        x.opening(0, 7);
+        x.loss(0, 2);
+        rightWinding(x, 0, 84);
+    }
+
     static void promise24_theHoursThatItHasDoNotMatter() {
         VaultMovements x = new VaultMovements();
         x.wind(0, 200);

@@ -134,6 +134,11 @@ public final class MovementsCasesTest {
         Cases.undoable("wind(1, 30)", x -> x.wind(1, 30), Clocks::busyOpen);
     }
 
+    static void promise4_nothingElseChanges() {
+        Cases.changesOnly("wind(0, 200)", x -> x.wind(0, 200), Clocks::busyOpen, "movement(0, 0)", "movement(0, 5)");
+        Cases.changesOnly("wind(1, 1)", x -> x.wind(1, 1), Clocks::busyOpen, "movement(1, 0)", "movement(1, 5)");
+    }
+
     // ---- promise 5
 
     static void promise5_movementMinus1IsRefused() {
@@ -201,6 +206,12 @@ public final class MovementsCasesTest {
 
     static void promise5_savesThoughNothingChanges() {
         Cases.undoable("fault(0, true)", x -> x.fault(0, true), VaultMovements::new);
+    }
+
+    static void promise5_nothingElseChanges() {
+        Cases.changesOnly("fault(2, true)", x -> x.fault(2, true), Clocks::busyOpen, "movement(2, 1)", "rightWinding(2)");
+        Cases.changesOnly("fault(1, true)", x -> x.fault(1, true), Clocks::busyLocked, "movement(1, 1)", "movement(1, 5)",
+            "rightWinding(1)", "opensIn", "lateness", "keyMovement");
     }
 
     // ---- promise 6
@@ -285,6 +296,11 @@ public final class MovementsCasesTest {
 
     static void promise6_savesThoughNothingChanges() {
         Cases.undoable("loss(0, 0)", x -> x.loss(0, 0), VaultMovements::new);
+    }
+
+    static void promise6_nothingElseChanges() {
+        Cases.changesOnly("loss(1, 20)", x -> x.loss(1, 20), Clocks::busyOpen, "movement(1, 2)", "movement(1, 5)", "rightWinding(1)");
+        Cases.changesOnly("loss(1, 20)", x -> x.loss(1, 20), Clocks::busyLocked, "movement(1, 2)");
     }
 
     // ---- promise 7
@@ -381,5 +397,12 @@ public final class MovementsCasesTest {
 
     static void promise7_savesThoughNothingChanges() {
         Cases.undoable("service(0)", x -> x.service(0), VaultMovements::new);
+    }
+
+    static void promise7_nothingElseChanges() {
+        Cases.changesOnly("service(1)", x -> x.service(1), MovementsCasesTest::worn, "movement(1, 1)", "movement(1, 2)",
+            "movement(1, 3)", "movement(1, 5)", "rightWinding(1)");
+        Cases.changesOnly("service(2)", x -> x.service(2), Clocks::busyOpen, "movement(2, 1)", "movement(2, 2)",
+            "movement(2, 3)", "movement(2, 4)", "rightWinding(2)");
     }
 }

@@ -323,6 +323,19 @@ public final class TextsCasesTest {
         error("1,1,200n", 7);
     }
 
+    static void promise14_aLongerTextThatWasClearedIsGone() {
+        VaultMovements x = Clocks.typed("1,2,x");
+        x.clearBuffer();
+        Checks.type(x, "1,2,");
+        Cases.due("firstError()", x.firstError(), 4);
+        Cases.argument("windAll()", y -> y.windAll(), () -> {
+            VaultMovements y = Clocks.typed("1,2,3");
+            y.clearBuffer();
+            Checks.type(y, "1,2,");
+            return y;
+        });
+    }
+
     static void promise14_notUndoable() {
         Cases.notUndoable("firstError()", x -> x.firstError(), Clocks::busyOpen);
         Cases.notUndoable("firstError()", x -> x.firstError(), VaultMovements::new);

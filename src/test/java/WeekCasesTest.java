@@ -170,6 +170,11 @@ public final class WeekCasesTest {
         Cases.undoable("opening(0, 8)", x -> x.opening(0, 8), VaultMovements::new);
     }
 
+    static void promise2_nothingElseChanges() {
+        Cases.changesOnly("opening(6, 0)", x -> x.opening(6, 0), Clocks::busyLocked, "day(6)", "count(4)", "rightWinding");
+        Cases.changesOnly("opening(0, NONE)", x -> x.opening(0, NONE), Clocks::busyOpen, "day(0)", "count(4)", "rightWinding");
+    }
+
     // ---- promise 3
 
     private static void sets(int setting, int value) {
@@ -276,5 +281,12 @@ public final class WeekCasesTest {
 
     static void promise3_savesThoughNothingChanges() {
         Cases.undoable("set(0, 3)", x -> x.set(0, 3), VaultMovements::new);
+    }
+
+    static void promise3_nothingElseChanges() {
+        Cases.changesOnly("set(0, 9)", x -> x.set(0, 9), Clocks::busyLocked, "setting(0)");
+        Cases.changesOnly("set(0, 1)", x -> x.set(0, 1), Clocks::busyLocked, "setting(0)");
+        Cases.changesOnly("set(1, 24)", x -> x.set(1, 24), Clocks::busyLocked, "setting(1)");
+        Cases.changesOnly("set(2, 5000)", x -> x.set(2, 5000), Clocks::busyOpen, "setting(2)");
     }
 }

@@ -210,6 +210,28 @@ public final class WindAllCasesTest {
         Cases.due("clearBuffer()", x.clearBuffer(), 0);
     }
 
+    static void promise15_aLongerTextThatWasClearedIsGone() {
+        VaultMovements x = Clocks.typed("1,2,34");
+        x.clearBuffer();
+        Checks.type(x, "1,2,3");
+        Cases.due("windAll()", x.windAll(), 3);
+        Cases.due("movement(2, 0)", x.movement(2, 0), 3);
+    }
+
+    static void promise15_aTextThatWasWoundIsGone() {
+        Cases.argument("windAll()", x -> x.windAll(), () -> {
+            VaultMovements x = Clocks.typed("1,2,3");
+            x.windAll();
+            Checks.type(x, "1,2");
+            return x;
+        });
+    }
+
+    static void promise15_nothingElseChanges() {
+        Cases.changesOnly("windAll()", x -> x.windAll(), WindAllCasesTest::busyWithWindings, "movement(0, 0)", "movement(0, 5)",
+            "movement(1, 0)", "movement(1, 5)");
+    }
+
     static void promise15_undoableAsOneCall() {
         Cases.undoable("windAll()", x -> x.windAll(), () -> Clocks.typed("1,n+9,200"));
         Cases.undoable("windAll()", x -> x.windAll(), WindAllCasesTest::busyWithWindings);
@@ -407,5 +429,22 @@ public final class WindAllCasesTest {
         Cases.due("setting(2)", x.setting(2), 5000);
         x.undo();
         Cases.due("setting(2)", x.setting(2), 500);
+    }
+
+    static void promise16_eachSavedStateIsWhole() {
+        Cases.Call[] calls = {x -> x.loss(2, 20), x -> x.wind(2, 200), x -> x.opening(6, 23), x -> x.set(2, 10), x -> x.lock(),
+            x -> x.pass(3), x -> x.loss(2, 3), x -> x.pass(4), x -> x.open(), x -> x.fault(2, false), x -> x.service(2)};
+        VaultMovements x = new VaultMovements();
+        for (Cases.Call call : calls) {
+            call.on(x);
+        }
+        for (int left = calls.length - 1; left >= calls.length - 6; left--) {
+            x.undo();
+            VaultMovements twin = new VaultMovements();
+            for (int i = 0; i < left; i++) {
+                calls[i].on(twin);
+            }
+            Cases.sameLooks("with " + left + " calls left", x, twin);
+        }
     }
 }
