@@ -274,6 +274,17 @@ public final class DoorCasesTest {
         Cases.undoable("drill()", x -> x.drill(), Clocks::busyLocked);
     }
 
+    static void promise10_theWaitingAndTheTriesEnd() {
+        VaultMovements x = Clocks.lockedWithTries(1, 24);
+        x.open();
+        x.set(0, 9);
+        x.open();
+        x.drill();
+        Cases.due("count(6)", x.count(6), 0);
+        Cases.due("count(7)", x.count(7), 0);
+        Cases.due("count(8)", x.count(8), 2);
+    }
+
     static void promise10_nothingElseChanges() {
         Cases.changesOnly("drill()", x -> x.drill(), Clocks::busyLocked, "count(3)", "count(5)", "count(6)", "count(7)",
             "count(13)", "movement(0, 0)", "movement(0, 1)", "movement(0, 5)", "movement(1, 0)", "movement(1, 1)",

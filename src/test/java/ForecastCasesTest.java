@@ -122,13 +122,17 @@ public final class ForecastCasesTest {
         opensJustBehind(x, 23);
     }
 
-    static void promise21_theLimitOfHoursDoesNotMatter() {
+    /** In the last hour, which no hour can follow. */
+    private static VaultMovements lockedInTheLastHour(int... hours) {
         VaultMovements x = Clocks.at(Clocks.LAST_HOUR);
-        Clocks.wind(x, 200, 200, 200);
+        Clocks.wind(x, hours);
         x.lock();
-        opensIn(x, 200);
-        Cases.due("lateness()", x.lateness(), 183);
-        Cases.due("movement(0, 5)", x.movement(0, 5), 200);
+        return x;
+    }
+
+    static void promise21_theLimitOfHoursDoesNotMatter() {
+        opensIn(lockedInTheLastHour(200, 200, 200), 200);
+        opensIn(lockedInTheLastHour(200, 1, 200), 1);
     }
 
     static void promise21_nothingIsChanged() {
@@ -243,6 +247,11 @@ public final class ForecastCasesTest {
         lateness(x, -167);
     }
 
+    static void promise22_theLimitOfHoursDoesNotMatter() {
+        lateness(lockedInTheLastHour(200, 200, 200), 183);
+        lateness(lockedInTheLastHour(200, 0, 200), -16);
+    }
+
     static void promise22_nothingIsChanged() {
         Cases.notUndoable("lateness()", x -> x.lateness(), Clocks::busyLocked);
         Cases.notUndoable("lateness()", x -> x.lateness(), () -> Clocks.lockedWithOne(0, 0));
@@ -323,6 +332,10 @@ public final class ForecastCasesTest {
         x.fault(0, false);
         x.fault(1, false);
         keyMovement(x, 2);
+    }
+
+    static void promise23_theLimitOfHoursDoesNotMatter() {
+        keyMovement(lockedInTheLastHour(200, 1, 200), 1);
     }
 
     static void promise23_nothingIsChanged() {

@@ -187,6 +187,12 @@ public final class LooksCasesTest {
         Cases.due("movement(1, 5)", x.movement(1, 5), 0);
     }
 
+    static void promise17_property5GoesOnBeyondTheLastHour() {
+        VaultMovements x = Clocks.at(Clocks.LAST_HOUR);
+        x.wind(0, 200);
+        Cases.due("movement(0, 5)", x.movement(0, 5), 200);
+    }
+
     static void promise17_nothingIsChanged() {
         Cases.notUndoable("movement(0, 5)", x -> x.movement(0, 5), Clocks::busyOpen);
         Cases.notUndoable("movement(0, 4)", x -> x.movement(0, 4), Clocks::busyLocked);

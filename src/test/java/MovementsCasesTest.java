@@ -132,6 +132,11 @@ public final class MovementsCasesTest {
 
     static void promise4_savesThoughNothingChanges() {
         Cases.undoable("wind(1, 30)", x -> x.wind(1, 30), Clocks::busyOpen);
+        Cases.undoable("wind(1, 30)", x -> x.wind(1, 30), () -> {
+            VaultMovements x = new VaultMovements();
+            x.wind(1, 30);
+            return x;
+        });
     }
 
     static void promise4_nothingElseChanges() {

@@ -265,6 +265,11 @@ public final class TextsCasesTest {
         partError("n+10", 3);
     }
 
+    static void promise14_more11() {
+        partError("n+11", 3);
+        partError("n+99", 3);
+    }
+
     static void promise14_less0() {
         partError("n-0", 2);
     }
@@ -279,6 +284,11 @@ public final class TextsCasesTest {
 
     static void promise14_less10() {
         partError("n-10", 3);
+    }
+
+    static void promise14_less11() {
+        partError("n-11", 3);
+        partError("n-99", 3);
     }
 
     static void promise14_twoSigns() {
@@ -321,6 +331,67 @@ public final class TextsCasesTest {
         error("-,-,-!", 5);
         error("-,-,n~", 5);
         error("1,1,200n", 7);
+    }
+
+    /** Of all characters, these and no others are without an error behind the text. */
+    private static void next(String text, String right) {
+        for (char code = 33; code <= 126; code++) {
+            VaultMovements x = Clocks.typed(text);
+            x.append(code);
+            int length = text.length();
+            Cases.due("firstError() of " + text + code, x.firstError(), right.indexOf(code) < 0 ? length : length + 1);
+        }
+    }
+
+    /** The same behind a part that stands first, second and third, where no comma can follow. */
+    private static void nextInAPart(String part, String right) {
+        next(part, right);
+        next("n-9," + part, right);
+        next("-,200," + part, right.replace(",", ""));
+    }
+
+    static void promise14_eachCharacterThatBeginsAPart() {
+        nextInAPart("", "-n123456789");
+    }
+
+    static void promise14_eachCharacterBehindLeftAsItIs() {
+        nextInAPart("-", ",");
+    }
+
+    static void promise14_eachCharacterBehindAnN() {
+        nextInAPart("n", ",+-");
+    }
+
+    static void promise14_eachCharacterBehindASign() {
+        nextInAPart("n+", "123456789");
+        nextInAPart("n-", "123456789");
+    }
+
+    static void promise14_eachCharacterBehindTheHoursMoreOrLess() {
+        nextInAPart("n+1", ",");
+        nextInAPart("n+9", ",");
+        nextInAPart("n-1", ",");
+        nextInAPart("n-9", ",");
+    }
+
+    static void promise14_eachCharacterBehindOneDigit() {
+        nextInAPart("1", ",0123456789");
+        nextInAPart("2", ",0123456789");
+        nextInAPart("9", ",0123456789");
+    }
+
+    static void promise14_eachCharacterBehindTwoDigits() {
+        nextInAPart("10", ",0123456789");
+        nextInAPart("19", ",0123456789");
+        nextInAPart("20", ",0");
+        nextInAPart("21", ",");
+        nextInAPart("99", ",");
+    }
+
+    static void promise14_eachCharacterBehindThreeDigits() {
+        nextInAPart("100", ",");
+        nextInAPart("199", ",");
+        nextInAPart("200", ",");
     }
 
     static void promise14_aLongerTextThatWasClearedIsGone() {
