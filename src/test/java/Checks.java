@@ -21,6 +21,13 @@ final class Checks {
         due(what, Double.doubleToLongBits(got), Double.doubleToLongBits(want));
     }
 
+    static void expect(String what, boolean right) {
+        done++;
+        if (!right) {
+            fail("not so: " + what);
+        }
+    }
+
     static void fail(String text) {
         wrong++;
         if (wrong <= 40) {
